@@ -1,0 +1,27 @@
+/** Holds answers against those that are due, and ends a test with exit code 1 if one was wrong. */
+final class Check {
+    private static int looked = 0;
+    private static int wrong = 0;
+
+    private Check() {
+    }
+
+    static void due(String call, long got, long want) {
+        looked++;
+        if (got != want) {
+            wrong++;
+            System.out.println(call + " answered " + got + ", due is " + want);
+        }
+    }
+
+    static void due(String call, boolean got, boolean want) {
+        due(call, got ? 1 : 0, want ? 1 : 0);
+    }
+
+    static void end() {
+        System.out.println(looked + " answers, " + wrong + " wrong");
+        if (wrong != 0 || looked == 0) {
+            System.exit(1);
+        }
+    }
+}
