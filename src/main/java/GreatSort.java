@@ -354,7 +354,11 @@ public final class GreatSort {
             }
             int hole = size;
             size++;
-            for (int above = (hole - 1) / 2; hole > 0 && items[above] > item; above = (hole - 1) / 2) {
+            while (hole > 0) {
+                int above = (hole - 1) / 2;
+                if (items[above] <= item) {
+                    break;
+                }
                 items[hole] = items[above];
                 hole = above;
             }
@@ -374,17 +378,16 @@ public final class GreatSort {
 
         private void sink(long item) {
             int hole = 0;
-            for (int below = lesserBelow(hole); below < size && items[below] < item; below = lesserBelow(hole)) {
-                items[hole] = items[below];
-                hole = below;
+            for (int left = 1; left < size; left = 2 * hole + 1) {
+                int right = left + 1;
+                int lesser = right < size && items[right] < items[left] ? right : left;
+                if (items[lesser] >= item) {
+                    break;
+                }
+                items[hole] = items[lesser];
+                hole = lesser;
             }
             items[hole] = item;
-        }
-
-        private int lesserBelow(int hole) {
-            int left = 2 * hole + 1;
-            int right = left + 1;
-            return right < size && items[right] < items[left] ? right : left;
         }
     }
 
@@ -436,8 +439,8 @@ public final class GreatSort {
             return isIn(row, 0, rowsInAll - 1) ? standing[row] : NONE;
         }
 
+        /** Makes the RUNS of II, when none are there. */
         void makeOf(Rows rows, int room, Heap heap) {
-            forget();
             rowsInAll = rows.count;
             putInOrder(rows, heap);
             select(rows, room, heap);

@@ -245,11 +245,18 @@ public final class PromiseTest {
     }
 
     private static void order() {
+        GreatSort y = new GreatSort();
+        for (int sort = 3; sort >= 0; sort--) {
+            y.give(sort, 0);
+        }
+        Check.due("5: 0 1 2 3 at first", y.against(3, 2) + y.against(2, 1) + y.against(1, 0), -3);
         GreatSort x = new GreatSort();
         for (int sort = 0; sort < 4; sort++) {
             x.give(sort, 0);
         }
         Check.due("5: 0 1 2 3 at first", x.against(0, 1) + x.against(1, 2) + x.against(2, 3), -3);
+        Check.due("5: turned", x.order(3, 2, 1, 0), true);
+        Check.due("5: turned", x.against(3, 2) + x.against(2, 1) + x.against(1, 0), -3);
         Check.due("5: order", x.order(2, 0, 3, 1), true);
         Check.due("5: ranks", x.rank(2) * 1000 + x.rank(0) * 100 + x.rank(3) * 10 + x.rank(1), 123);
         int[][] wrong = {{0, 0, 1, 2}, {0, 1, 0, 2}, {0, 1, 2, 0}, {1, 0, 0, 2}, {1, 0, 2, 0}, {1, 2, 0, 0},
