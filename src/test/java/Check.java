@@ -2,15 +2,23 @@
 final class Check {
     private static int looked = 0;
     private static int wrong = 0;
+    private static int sentences = 0;
+    private static String sentence = "";
 
     private Check() {
+    }
+
+    /** What is looked at from now on tests this sentence of the document. */
+    static void sentence(String words) {
+        sentences++;
+        sentence = words + ": ";
     }
 
     static void due(String call, long got, long want) {
         looked++;
         if (got != want) {
             wrong++;
-            System.out.println(call + " answered " + got + ", due is " + want);
+            System.out.println(sentence + call + " answered " + got + ", due is " + want);
         }
     }
 
@@ -19,7 +27,8 @@ final class Check {
     }
 
     static void end() {
-        System.out.println(looked + " answers, " + wrong + " wrong");
+        String of = sentences == 0 ? "" : sentences + " sentences, ";
+        System.out.println(of + looked + " answers, " + wrong + " wrong");
         if (wrong != 0 || looked == 0) {
             System.exit(1);
         }

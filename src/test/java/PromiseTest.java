@@ -49,72 +49,6 @@ public final class PromiseTest {
         Check.end();
     }
 
-    /** ROWS of SORT 0 with these values, in turn. */
-    private static GreatSort of(int... values) {
-        GreatSort x = new GreatSort();
-        for (int value : values) {
-            x.give(0, value);
-        }
-        return x;
-    }
-
-    /** RUNS of these lengths: each rises, and stands wholly ahead of the ones that came earlier. */
-    private static GreatSort ofRuns(int... lengths) {
-        GreatSort x = new GreatSort();
-        for (int k = 0; k < lengths.length; k++) {
-            for (int i = 0; i < lengths[k]; i++) {
-                x.give(0, i - 1000 * k);
-            }
-        }
-        Check.due("runs made", x.runs(1), lengths.length);
-        return x;
-    }
-
-    /** A CUT into n PARTS of so many ROWS each, numbered in THE ORDER. */
-    private static GreatSort ofParts(int n, int size) {
-        GreatSort x = new GreatSort();
-        for (int i = 0; i < n * size; i++) {
-            x.give(0, i);
-        }
-        x.runs(1);
-        Check.due("samples", x.cut(n, 1), n * size);
-        for (int j = 0; j < n; j++) {
-            Check.due("size of part " + j, x.part(j, 0), size);
-        }
-        return x;
-    }
-
-    private static void hasRun(GreatSort x, int k, int... rows) {
-        Check.due("length(" + k + ")", x.length(k), rows.length);
-        for (int i = 0; i < rows.length; i++) {
-            Check.due("at(" + k + ", " + i + ")", x.at(k, i), rows[i]);
-        }
-        Check.due("at behind run " + k, x.at(k, rows.length), NONE);
-        Check.due("at ahead of run " + k, x.at(k, -1), NONE);
-    }
-
-    private static void hasTakes(GreatSort x, int merge, int... runs) {
-        for (int j = 0; j < runs.length; j++) {
-            Check.due("takes(" + merge + ", " + j + ")", x.takes(merge, j), runs[j]);
-        }
-        Check.due("takes behind merge " + merge, x.takes(merge, runs.length), NONE);
-        Check.due("takes ahead of merge " + merge, x.takes(merge, -1), NONE);
-    }
-
-    private static void hasWork(GreatSort x, int ticks, int all, int again, int done, int end) {
-        Check.due("work(0)", x.work(0), ticks);
-        Check.due("work(1)", x.work(1), all);
-        Check.due("work(2)", x.work(2), again);
-        Check.due("work(3)", x.work(3), done);
-        Check.due("work(4)", x.work(4), end);
-    }
-
-    private static void liesOn(GreatSort x, int... hosts) {
-        for (int j = 0; j < hosts.length; j++) {
-            Check.due("part(" + j + ", 2)", x.part(j, 2), hosts[j]);
-        }
-    }
-
     private static void newObject() {
         GreatSort x = new GreatSort();
         for (int what = 0; what < 4; what++) {
@@ -210,7 +144,7 @@ public final class PromiseTest {
     }
 
     private static void clear() {
-        GreatSort x = of(3, 2, 1);
+        GreatSort x = Given.of(3, 2, 1);
         x.falls(0, true);
         x.order(3, 2, 1, 0);
         x.pace(2, 7);
@@ -267,7 +201,7 @@ public final class PromiseTest {
         }
         Check.due("5: stays", x.rank(2) * 1000 + x.rank(0) * 100 + x.rank(3) * 10 + x.rank(1), 123);
         x.runs(4);
-        hasRun(x, 0, 2, 0, 3, 1);
+        Shows.run(x, 0, 2, 0, 3, 1);
         Check.due("5: there are runs", x.order(0, 1, 2, 3), false);
         Check.due("5: stays", x.rank(2), 0);
         x.clear();
@@ -276,7 +210,7 @@ public final class PromiseTest {
     }
 
     private static void falls() {
-        GreatSort x = of(1, 2, 2);
+        GreatSort x = Given.of(1, 2, 2);
         x.give(1, 1);
         x.give(1, 2);
         Check.due("6: falls", x.falls(0, true), true);
@@ -315,7 +249,7 @@ public final class PromiseTest {
     }
 
     private static void against() {
-        GreatSort x = of(5, -5, 5);
+        GreatSort x = Given.of(5, -5, 5);
         x.give(1, -100000);
         x.give(0, 100000);
         Check.due("8: behind", x.against(0, 1), 1);
@@ -334,7 +268,7 @@ public final class PromiseTest {
     }
 
     private static void rank() {
-        GreatSort x = of(5, -5, 5, 0);
+        GreatSort x = Given.of(5, -5, 5, 0);
         int[] due = {2, 0, 3, 1};
         for (int i = 0; i < 4; i++) {
             Check.due("9: rank " + i, x.rank(i), due[i]);
@@ -350,43 +284,43 @@ public final class PromiseTest {
     }
 
     private static void runs() {
-        GreatSort x = of(5, 3, 8, 1, 9, 2);
+        GreatSort x = Given.of(5, 3, 8, 1, 9, 2);
         Check.due("10: room 2", x.runs(2), 2);
-        hasRun(x, 0, 1, 0, 2, 4);
-        hasRun(x, 1, 3, 5);
+        Shows.run(x, 0, 1, 0, 2, 4);
+        Shows.run(x, 1, 3, 5);
         Check.due("10: room 0", x.runs(0), NONE);
         Check.due("10: room 41", x.runs(41), NONE);
         for (int odd : ODD) {
             Check.due("10: odd room", x.runs(odd), NONE);
         }
         Check.due("10: the old ones stay", x.count(1), 2);
-        hasRun(x, 1, 3, 5);
+        Shows.run(x, 1, 3, 5);
         Check.due("10: room 1", x.runs(1), 4);
-        hasRun(x, 0, 0);
-        hasRun(x, 1, 1, 2);
-        hasRun(x, 2, 3, 4);
-        hasRun(x, 3, 5);
+        Shows.run(x, 0, 0);
+        Shows.run(x, 1, 1, 2);
+        Shows.run(x, 2, 3, 4);
+        Shows.run(x, 3, 5);
         Check.due("10: room 40", x.runs(40), 1);
-        hasRun(x, 0, 3, 5, 1, 0, 2, 4);
+        Shows.run(x, 0, 3, 5, 1, 0, 2, 4);
         x.give(0, 0);
         Check.due("10: a later row is in no run", x.length(0), 6);
         Check.due("10: anew", x.runs(3), 2);
-        hasRun(x, 0, 1, 0, 2, 4);
-        hasRun(x, 1, 6, 3, 5);
+        Shows.run(x, 0, 1, 0, 2, 4);
+        Shows.run(x, 1, 6, 3, 5);
         Check.due("10: none of no rows", new GreatSort().runs(5), 0);
     }
 
     private static void runsOfLikeKeysAndShortHeaps() {
-        GreatSort x = of(5, 5, 5);
+        GreatSort x = Given.of(5, 5, 5);
         Check.due("10: like keys do not stand ahead", x.runs(1), 1);
-        hasRun(x, 0, 0, 1, 2);
-        GreatSort y = of(3, 2, 1);
+        Shows.run(x, 0, 0, 1, 2);
+        GreatSort y = Given.of(3, 2, 1);
         Check.due("10: room for all", y.runs(3), 1);
-        hasRun(y, 0, 2, 1, 0);
+        Shows.run(y, 0, 2, 1, 0);
         Check.due("10: room for more", y.runs(4), 1);
         Check.due("10: room for one fewer", y.runs(2), 2);
-        hasRun(y, 0, 1, 0);
-        hasRun(y, 1, 2);
+        Shows.run(y, 0, 1, 0);
+        Shows.run(y, 1, 2);
         // 41 falling rows: a heap of 40 keeps the first 40 in one run, the last one waits for the next.
         GreatSort z = new GreatSort();
         for (int i = 0; i < 41; i++) {
@@ -394,11 +328,11 @@ public final class PromiseTest {
         }
         Check.due("10: room 40", z.runs(40), 2);
         Check.due("10: first run", z.length(0), 40);
-        hasRun(z, 1, 40);
+        Shows.run(z, 1, 40);
     }
 
     private static void runsGoWithWhatWasMadeOfThem() {
-        GreatSort x = ofRuns(2, 2, 2);
+        GreatSort x = Given.ofRuns(2, 2, 2);
         x.plan(2);
         x.merge();
         x.cut(2, 1);
@@ -419,9 +353,9 @@ public final class PromiseTest {
     }
 
     private static void lengthAndAt() {
-        GreatSort x = ofRuns(2, 1);
-        hasRun(x, 0, 0, 1);
-        hasRun(x, 1, 2);
+        GreatSort x = Given.ofRuns(2, 1);
+        Shows.run(x, 0, 0, 1);
+        Shows.run(x, 1, 2);
         Check.due("11: run 2", x.length(2), NONE);
         Check.due("12: run 2", x.at(2, 0), NONE);
         for (int odd : ODD) {
@@ -433,13 +367,13 @@ public final class PromiseTest {
         Check.due("11: merge not done", x.length(2), NONE);
         Check.due("12: merge not done", x.at(2, 0), NONE);
         x.merge();
-        hasRun(x, 2, 2, 0, 1);
+        Shows.run(x, 2, 2, 0, 1);
         Check.due("11: none behind", x.length(3), NONE);
         Check.due("12: none behind", x.at(3, 0), NONE);
     }
 
     private static void plan() {
-        GreatSort x = ofRuns(5, 1, 3, 1);
+        GreatSort x = Given.ofRuns(5, 1, 3, 1);
         Check.due("13: k 1", x.plan(1), NONE);
         Check.due("13: k 9", x.plan(9), NONE);
         for (int odd : ODD) {
@@ -447,24 +381,24 @@ public final class PromiseTest {
         }
         Check.due("13: none told", x.merge(), NONE);
         Check.due("13: by 2", x.plan(2), 2 + 5 + 10);
-        hasTakes(x, 0, 1, 3);
-        hasTakes(x, 1, 4, 2);
-        hasTakes(x, 2, 0, 5);
+        Shows.takes(x, 0, 1, 3);
+        Shows.takes(x, 1, 4, 2);
+        Shows.takes(x, 2, 0, 5);
         Check.due("13: refused", x.plan(9), NONE);
         Check.due("13: stays", x.merges(), 3);
         Check.due("13: by 3", x.plan(3), 2 + 10);
-        hasTakes(x, 0, 1, 3);
-        hasTakes(x, 1, 4, 2, 0);
+        Shows.takes(x, 0, 1, 3);
+        Shows.takes(x, 1, 4, 2, 0);
         Check.due("13: by 4", x.plan(4), 10);
-        hasTakes(x, 0, 1, 3, 2, 0);
+        Shows.takes(x, 0, 1, 3, 2, 0);
         Check.due("13: by 8", x.plan(8), 10);
         Check.due("13: by 8", x.merges(), 1);
-        GreatSort y = ofRuns(1, 1, 1, 1, 1, 1, 1, 1, 1, 1);
+        GreatSort y = Given.ofRuns(1, 1, 1, 1, 1, 1, 1, 1, 1, 1);
         Check.due("13: ten by 8", y.plan(8), 3 + 10);
-        hasTakes(y, 0, 0, 1, 2);
-        hasTakes(y, 1, 3, 4, 5, 6, 7, 8, 9, 10);
+        Shows.takes(y, 0, 0, 1, 2);
+        Shows.takes(y, 1, 3, 4, 5, 6, 7, 8, 9, 10);
         Check.due("13: no rows", new GreatSort().plan(2), NONE);
-        GreatSort z = of(1, 2);
+        GreatSort z = Given.of(1, 2);
         Check.due("13: none made", z.plan(2), NONE);
         z.clear();
         z.runs(1);
@@ -472,7 +406,7 @@ public final class PromiseTest {
     }
 
     private static void planOfOneRun() {
-        GreatSort x = ofRuns(3);
+        GreatSort x = Given.ofRuns(3);
         Check.due("13: one run moves nothing", x.plan(2), 0);
         Check.due("15: no merges", x.merges(), 0);
         Check.due("16: none", x.takes(0, 0), NONE);
@@ -503,7 +437,7 @@ public final class PromiseTest {
     }
 
     private static void queue() {
-        GreatSort x = ofRuns(5, 1, 3, 1);
+        GreatSort x = Given.ofRuns(5, 1, 3, 1);
         Check.due("14: by 2", x.queue(2), 6 + 4 + 10);
         Check.due("14: by 3", x.queue(3), 6 + 10);
         Check.due("14: by 4", x.queue(4), 10);
@@ -512,24 +446,24 @@ public final class PromiseTest {
         x.plan(2);
         x.queue(3);
         Check.due("14: the plan stays", x.merges(), 3);
-        hasTakes(x, 1, 4, 2);
+        Shows.takes(x, 1, 4, 2);
         Check.due("14: k 1", x.queue(1), NONE);
         Check.due("14: k 9", x.queue(9), NONE);
         for (int odd : ODD) {
             Check.due("14: odd k", x.queue(odd), NONE);
         }
-        Check.due("14: none made", of(1).queue(2), NONE);
-        Check.due("14: five by 3", ofRuns(1, 2, 3, 4, 5).queue(3), 6 + 15);
+        Check.due("14: none made", Given.of(1).queue(2), NONE);
+        Check.due("14: five by 3", Given.ofRuns(1, 2, 3, 4, 5).queue(3), 6 + 15);
     }
 
     private static void mergesAndTakes() {
-        GreatSort x = ofRuns(1, 1, 1);
+        GreatSort x = Given.ofRuns(1, 1, 1);
         Check.due("15: none told", x.merges(), 0);
         Check.due("16: none told", x.takes(0, 0), NONE);
         x.plan(2);
         Check.due("15: two", x.merges(), 2);
-        hasTakes(x, 0, 0, 1);
-        hasTakes(x, 1, 2, 3);
+        Shows.takes(x, 0, 0, 1);
+        Shows.takes(x, 1, 2, 3);
         Check.due("16: merge 2", x.takes(2, 0), NONE);
         for (int odd : ODD) {
             Check.due("16: odd merge", x.takes(odd, 0), NONE);
@@ -537,45 +471,45 @@ public final class PromiseTest {
         }
         x.plan(3);
         Check.due("15: one", x.merges(), 1);
-        hasTakes(x, 0, 0, 1, 2);
+        Shows.takes(x, 0, 0, 1, 2);
         Check.due("16: merge 1", x.takes(1, 0), NONE);
     }
 
     private static void merge() {
-        GreatSort x = ofRuns(5, 1, 3, 1);
+        GreatSort x = Given.ofRuns(5, 1, 3, 1);
         Check.due("17: none told", x.merge(), NONE);
         x.plan(2);
         Check.due("17: by 2", x.merge(), 1 + 4 + 5);
-        hasRun(x, 4, 9, 5);
-        hasRun(x, 5, 9, 6, 7, 8, 5);
-        hasRun(x, 6, 9, 6, 7, 8, 5, 0, 1, 2, 3, 4);
+        Shows.run(x, 4, 9, 5);
+        Shows.run(x, 5, 9, 6, 7, 8, 5);
+        Shows.run(x, 6, 9, 6, 7, 8, 5, 0, 1, 2, 3, 4);
         Check.due("17: runs of II stay", x.count(1), 4);
         Check.due("17: again", x.merge(), 10);
         Check.due("11: none more", x.length(7), NONE);
         // 0 2 4 | 1 3: each of 0 1 2 3 is found with one look, 4 is left alone.
-        GreatSort y = of(0, 2, 4, 1, 3);
+        GreatSort y = Given.of(0, 2, 4, 1, 3);
         y.runs(1);
         y.plan(2);
         Check.due("17: in turn", y.merge(), 4);
-        hasRun(y, 2, 0, 3, 1, 4, 2);
+        Shows.run(y, 2, 0, 3, 1, 4, 2);
         // Like keys go by the rows' numbers, whichever run is told first.
-        GreatSort z = of(5, 7, 5);
+        GreatSort z = Given.of(5, 7, 5);
         z.runs(1);
         z.plan(2);
-        hasTakes(z, 0, 1, 0);
+        Shows.takes(z, 0, 1, 0);
         Check.due("17: like keys", z.merge(), 2);
-        hasRun(z, 2, 0, 2, 1);
+        Shows.run(z, 2, 0, 2, 1);
     }
 
     private static void mergeAfterAnotherPlan() {
-        GreatSort x = ofRuns(5, 1, 3, 1);
+        GreatSort x = Given.ofRuns(5, 1, 3, 1);
         x.plan(2);
         x.merge();
         Check.due("13: of the runs of II", x.plan(3), 12);
         Check.due("11: these merges are not done", x.length(4), NONE);
         Check.due("17: by 3", x.merge(), 1 + 9);
-        hasRun(x, 4, 9, 5);
-        hasRun(x, 5, 9, 6, 7, 8, 5, 0, 1, 2, 3, 4);
+        Shows.run(x, 4, 9, 5);
+        Shows.run(x, 5, 9, 6, 7, 8, 5, 0, 1, 2, 3, 4);
         Check.due("11: none more", x.length(6), NONE);
         Check.due("13: refused", x.plan(1), NONE);
         Check.due("11: stays", x.length(5), 10);
@@ -586,7 +520,7 @@ public final class PromiseTest {
     }
 
     private static void cut() {
-        GreatSort x = of(0, 1, 2, 3, 4, 5, 6, 7, 8, 9);
+        GreatSort x = Given.of(0, 1, 2, 3, 4, 5, 6, 7, 8, 9);
         x.runs(1);
         Check.due("18: samples 2 5 8", x.cut(2, 3), 3);
         Check.due("20: up to sample 0", x.part(0, 0), 3);
@@ -600,7 +534,7 @@ public final class PromiseTest {
         Check.due("18: one part", x.cut(1, 20), 0);
         Check.due("20: all", x.part(0, 0), 10);
         // RUNS 4 5 6 | 0 1 2 (rows 3 4 5): by each second row the samples are rows 4 and 1.
-        GreatSort y = of(4, 5, 6, 0, 1, 2);
+        GreatSort y = Given.of(4, 5, 6, 0, 1, 2);
         y.runs(1);
         Check.due("18: of each run", y.cut(2, 2), 2);
         Check.due("20: the first in the order", y.part(0, 3), 4);
@@ -616,7 +550,7 @@ public final class PromiseTest {
     }
 
     private static void cutWithEmptyParts() {
-        GreatSort x = of(0, 1, 2, 3);
+        GreatSort x = Given.of(0, 1, 2, 3);
         x.runs(1);
         Check.due("18: one sample", x.cut(4, 3), 1);
         for (int j = 0; j < 3; j++) {
@@ -634,7 +568,7 @@ public final class PromiseTest {
     }
 
     private static void cutRefused() {
-        GreatSort x = of(1, 2, 3);
+        GreatSort x = Given.of(1, 2, 3);
         Check.due("18: no runs", x.cut(1, 1), NONE);
         x.runs(1);
         x.cut(2, 1);
@@ -648,21 +582,21 @@ public final class PromiseTest {
             Check.due("18: odd e", x.cut(1, odd), NONE);
         }
         Check.due("18: refused: it stays", x.count(3), 2);
-        hasWork(x, 1, 3, 0, 2, 1);
+        Shows.work(x, 1, 3, 0, 2, 1);
         Check.due("18: anew", x.cut(8, 20), 0);
-        hasWork(x, 0, 0, 0, 0, 0);
+        Shows.work(x, 0, 0, 0, 0, 0);
         Check.due("18: work goes", x.host(0, 4), 0);
         Check.due("18: work goes", x.part(0, 1), 0);
         x.cut(1, 1);
         x.tick();
-        hasWork(x, 1, 3, 0, 1, 1);
+        Shows.work(x, 1, 3, 0, 1, 1);
         x.cut(1, 1);
         x.tick();
-        hasWork(x, 1, 3, 0, 1, 1);
+        Shows.work(x, 1, 3, 0, 1, 1);
     }
 
     private static void bound() {
-        GreatSort x = ofRuns(3, 3);
+        GreatSort x = Given.ofRuns(3, 3);
         Check.due("19: none", x.bound(), NONE);
         x.cut(2, 1);
         Check.due("19: 1 * 3 + 0", x.bound(), 3);
@@ -678,8 +612,8 @@ public final class PromiseTest {
     }
 
     private static void part() {
-        GreatSort x = ofParts(3, 12);
-        liesOn(x, 0, 1, 2);
+        GreatSort x = Given.ofParts(3, 12);
+        Shows.liesOn(x, 0, 1, 2);
         x.tick();
         Check.due("20: merged", x.part(1, 1), 10);
         Check.due("20: rows stay", x.part(1, 0), 12);
@@ -692,7 +626,7 @@ public final class PromiseTest {
     }
 
     private static void pace() {
-        GreatSort x = ofParts(1, 100);
+        GreatSort x = Given.ofParts(1, 100);
         Check.due("21: 50", x.pace(0, 50), true);
         Check.due("21: tick", x.tick(), 50);
         Check.due("21: 0", x.pace(0, 0), true);
@@ -721,21 +655,21 @@ public final class PromiseTest {
             Check.due("22: odd", x.fall(odd), NONE);
         }
         Check.due("22: host 7", x.fall(7), 0);
-        GreatSort y = ofParts(2, 10);
+        GreatSort y = Given.ofParts(2, 10);
         y.tick();
-        hasWork(y, 1, 20, 0, 2, 1);
+        Shows.work(y, 1, 20, 0, 2, 1);
         Check.due("22: a done part goes, too", y.fall(1), 1);
         // Host 0 has merged all of its part: it has as few rows left as hosts 2 to 7.
-        liesOn(y, 0, 0);
+        Shows.liesOn(y, 0, 0);
         Check.due("22: none of its rows merged", y.part(1, 1), 0);
         Check.due("22: others keep theirs", y.part(0, 1), 10);
-        hasWork(y, 1, 20, 0, 1, 0);
+        Shows.work(y, 1, 20, 0, 1, 0);
         Check.due("22: merged by the fallen one", y.host(1, 4), 10);
         Check.due("22: none lies on it", y.host(1, 2), 0);
     }
 
     private static void fallTakesTheLeastLaden() {
-        GreatSort x = ofParts(4, 9);
+        GreatSort x = Given.ofParts(4, 9);
         for (int host = 4; host < 8; host++) {
             Check.due("22: no part", x.fall(host), 0);
         }
@@ -746,33 +680,33 @@ public final class PromiseTest {
         x.tick();
         // Left: 8, 6, 7, 9.
         Check.due("22: one", x.fall(3), 1);
-        liesOn(x, 0, 1, 2, 1);
+        Shows.liesOn(x, 0, 1, 2, 1);
         // Left: 8, 15, 7; host 1's parts go, in order, to host 2 (16) and host 0 (17).
         Check.due("22: two", x.fall(1), 2);
-        liesOn(x, 0, 2, 2, 0);
+        Shows.liesOn(x, 0, 2, 2, 0);
         Check.due("24: left", x.host(0, 3), 17);
         Check.due("24: left", x.host(2, 3), 16);
         Check.due("22: two", x.fall(2), 2);
-        liesOn(x, 0, 0, 0, 0);
+        Shows.liesOn(x, 0, 0, 0, 0);
         Check.due("24: left", x.host(0, 3), 35);
     }
 
     private static void fallOfAll() {
-        GreatSort x = ofParts(2, 5);
+        GreatSort x = Given.ofParts(2, 5);
         for (int host = 7; host > 0; host--) {
             x.fall(host);
         }
-        liesOn(x, 0, 0);
+        Shows.liesOn(x, 0, 0);
         x.tick();
         Check.due("22: nowhere", x.fall(0), 2);
-        liesOn(x, NONE, NONE);
+        Shows.liesOn(x, NONE, NONE);
         Check.due("20: none merged", x.part(0, 1), 0);
         Check.due("25: none works", x.tick(), 0);
-        hasWork(x, 2, 10, 0, 0, 0);
+        Shows.work(x, 2, 10, 0, 0, 0);
         Check.due("23: all", x.rise(5), 2);
-        liesOn(x, 5, 5);
+        Shows.liesOn(x, 5, 5);
         Check.due("23: none more", x.rise(0), 0);
-        liesOn(x, 5, 5);
+        Shows.liesOn(x, 5, 5);
     }
 
     private static void cutOnHostsThatAreDown() {
@@ -785,19 +719,19 @@ public final class PromiseTest {
         x.fall(2);
         x.cut(3, 1);
         // Part 1 lies on host 1; part 0 goes to host 3, the first one with no rows, part 2 to host 4.
-        liesOn(x, 3, 1, 4);
+        Shows.liesOn(x, 3, 1, 4);
         for (int host = 0; host < 8; host++) {
             x.fall(host);
         }
         Check.due("18: with no host", x.cut(2, 1), 12);
-        liesOn(x, NONE, NONE);
+        Shows.liesOn(x, NONE, NONE);
         Check.due("23: all", x.rise(7), 2);
         x.cut(3, 1);
-        liesOn(x, 7, 7, 7);
+        Shows.liesOn(x, 7, 7, 7);
     }
 
     private static void rise() {
-        GreatSort x = ofParts(2, 5);
+        GreatSort x = Given.ofParts(2, 5);
         Check.due("23: is up", x.rise(0), NONE);
         Check.due("23: host 8", x.rise(8), NONE);
         for (int odd : ODD) {
@@ -806,7 +740,7 @@ public final class PromiseTest {
         x.fall(1);
         Check.due("23: nothing lay nowhere", x.rise(1), 0);
         Check.due("24: up", x.host(1, 1), 1);
-        liesOn(x, 0, 2);
+        Shows.liesOn(x, 0, 2);
         Check.due("23: is up", x.rise(1), NONE);
         GreatSort y = new GreatSort();
         y.fall(7);
@@ -814,7 +748,7 @@ public final class PromiseTest {
     }
 
     private static void host() {
-        GreatSort x = ofParts(2, 15);
+        GreatSort x = Given.ofParts(2, 15);
         x.tick();
         int[] due = {10, 1, 1, 5, 10};
         for (int what = 0; what < 5; what++) {
@@ -837,99 +771,99 @@ public final class PromiseTest {
     }
 
     private static void tick() {
-        GreatSort x = ofParts(2, 15);
+        GreatSort x = Given.ofParts(2, 15);
         x.pace(1, 20);
         Check.due("25: 10 and 15", x.tick(), 25);
         Check.due("25: 5", x.tick(), 5);
         Check.due("25: nothing left", x.tick(), 0);
-        hasWork(x, 3, 30, 0, 2, 1);
+        Shows.work(x, 3, 30, 0, 2, 1);
         x.runs(1);
         Check.due("25: without a cut", x.tick(), NONE);
     }
 
     private static void tickGoesOnWithTheNextPart() {
-        GreatSort x = ofParts(3, 6);
+        GreatSort x = Given.ofParts(3, 6);
         for (int host = 1; host < 8; host++) {
             x.fall(host);
         }
-        liesOn(x, 0, 0, 0);
+        Shows.liesOn(x, 0, 0, 0);
         Check.due("25: 6 and 4", x.tick(), 10);
         Check.due("20: first", x.part(0, 1), 6);
         Check.due("20: second", x.part(1, 1), 4);
         Check.due("20: third", x.part(2, 1), 0);
-        hasWork(x, 1, 10, 0, 1, 0);
+        Shows.work(x, 1, 10, 0, 1, 0);
         x.pace(0, 1);
         Check.due("25: 1", x.tick(), 1);
         Check.due("20: second", x.part(1, 1), 5);
         x.pace(0, 50);
         Check.due("25: the rest", x.tick(), 7);
-        hasWork(x, 3, 18, 0, 3, 1);
+        Shows.work(x, 3, 18, 0, 3, 1);
     }
 
     private static void tickMeetsEmptyParts() {
-        GreatSort x = of(0, 1, 2, 3);
+        GreatSort x = Given.of(0, 1, 2, 3);
         x.runs(1);
         x.cut(5, 2);
         // Sizes 0 0 2 0 2: the empty ones are not done before a tick.
-        hasWork(x, 0, 0, 0, 0, 0);
+        Shows.work(x, 0, 0, 0, 0, 0);
         for (int host = 0; host < 8; host++) {
             x.pace(host, 0);
         }
         Check.due("25: with a pace of 0", x.tick(), 0);
-        hasWork(x, 1, 0, 0, 3, 0);
+        Shows.work(x, 1, 0, 0, 3, 0);
         for (int host = 7; host > 0; host--) {
             x.fall(host);
         }
         Check.due("25: only up to one that has rows", x.tick(), 0);
-        hasWork(x, 2, 0, 0, 2, 0);
+        Shows.work(x, 2, 0, 0, 2, 0);
         x.pace(0, 2);
         // Part 2 takes all of the pace; the empty part 3 behind it is met, part 4 gets nothing.
         Check.due("25: 2", x.tick(), 2);
-        hasWork(x, 3, 2, 0, 4, 0);
+        Shows.work(x, 3, 2, 0, 4, 0);
         Check.due("25: 2", x.tick(), 2);
-        hasWork(x, 4, 4, 0, 5, 1);
+        Shows.work(x, 4, 4, 0, 5, 1);
     }
 
     private static void work() {
-        GreatSort x = of(1);
+        GreatSort x = Given.of(1);
         Check.due("26: without a cut", x.work(0), NONE);
         x.runs(1);
         Check.due("26: without a cut", x.work(4), NONE);
         x.cut(1, 1);
-        hasWork(x, 0, 0, 0, 0, 0);
+        Shows.work(x, 0, 0, 0, 0, 0);
         Check.due("26: 5", x.work(5), NONE);
         for (int odd : ODD) {
             Check.due("26: odd", x.work(odd), NONE);
         }
         x.tick();
-        hasWork(x, 1, 1, 0, 1, 1);
+        Shows.work(x, 1, 1, 0, 1, 1);
     }
 
     private static void workDoneAgain() {
-        GreatSort x = ofParts(1, 30);
+        GreatSort x = Given.ofParts(1, 30);
         x.tick();
         x.tick();
         x.fall(0);
-        hasWork(x, 2, 20, 0, 0, 0);
-        liesOn(x, 1);
+        Shows.work(x, 2, 20, 0, 0, 0);
+        Shows.liesOn(x, 1);
         x.pace(1, 8);
         x.tick();
-        hasWork(x, 3, 28, 8, 0, 0);
+        Shows.work(x, 3, 28, 8, 0, 0);
         x.fall(1);
         // Rows 0 to 19 have been merged before, rows 0 to 7 even twice; row 20 on is new.
         x.pace(2, 25);
         x.tick();
-        hasWork(x, 4, 53, 28, 0, 0);
+        Shows.work(x, 4, 53, 28, 0, 0);
         x.tick();
-        hasWork(x, 5, 58, 28, 1, 1);
+        Shows.work(x, 5, 58, 28, 1, 1);
         x.fall(2);
         x.pace(3, 50);
         x.tick();
-        hasWork(x, 6, 88, 58, 1, 1);
+        Shows.work(x, 6, 88, 58, 1, 1);
     }
 
     private static void end() {
-        GreatSort x = of(4, 1, 3, 1, 0);
+        GreatSort x = Given.of(4, 1, 3, 1, 0);
         x.runs(2);
         Check.due("27: without a cut", x.end(0), NONE);
         x.cut(2, 1);
@@ -960,7 +894,7 @@ public final class PromiseTest {
     }
 
     private static void count() {
-        GreatSort x = ofRuns(2, 3);
+        GreatSort x = Given.ofRuns(2, 3);
         x.give(0, 0);
         x.cut(3, 2);
         int[] due = {6, 2, 2, 3};
