@@ -23,7 +23,11 @@ final class Check {
     }
 
     static void due(String call, boolean got, boolean want) {
-        due(call, got ? 1 : 0, want ? 1 : 0);
+        due(call, bit(got), bit(want));
+    }
+
+    static int bit(boolean answer) {
+        return answer ? 1 : 0;
     }
 
     static void end() {

@@ -269,26 +269,12 @@ public final class EdgeCutTest {
         Check.sentence("18: NONE if there is no RUN");
         for (int n : new int[] {1, 8}) {
             for (int e : new int[] {1, 20}) {
-                for (Supplier<GreatSort> stage : Given.STAGES_WITHOUT_RUNS) {
-                    Refused.from(stage, "none made", x -> x.cut(n, e), NONE);
+                for (Supplier<GreatSort> stage : Given.WITHOUT_RUNS) {
+                    Refused.from(stage, "cut(" + n + ", " + e + ")", x -> x.cut(n, e), NONE);
                 }
-                Refused.from(EdgeCutTest::cleared, "cleared", x -> x.cut(n, e), NONE);
-                Refused.from(EdgeCutTest::ofNoRows, "of no rows", x -> x.cut(n, e), NONE);
             }
         }
         Check.due("of one row", Given.ofRuns(1).cut(1, 1), 1);
-    }
-
-    private static GreatSort cleared() {
-        GreatSort x = Given.atEnd();
-        x.clear();
-        return x;
-    }
-
-    private static GreatSort ofNoRows() {
-        GreatSort x = new GreatSort();
-        x.runs(40);
-        return x;
     }
 
     private static void cutRefusesNumbers() {
@@ -386,11 +372,9 @@ public final class EdgeCutTest {
 
     private static void boundWithoutACut() {
         Check.sentence("19: NONE without one");
-        Check.due("new", new GreatSort().bound(), NONE);
-        Check.due("rows", Given.rows().bound(), NONE);
-        Check.due("runs", Given.runs().bound(), NONE);
-        Check.due("merged", Given.merged().bound(), NONE);
-        Check.due("cleared", cleared().bound(), NONE);
+        for (Supplier<GreatSort> stage : Given.WITHOUT_A_CUT) {
+            Check.due("bound()", stage.get().bound(), NONE);
+        }
         GreatSort x = Given.runs();
         x.cut(9, 1);
         Check.due("refused", x.bound(), NONE);

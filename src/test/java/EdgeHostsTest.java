@@ -1,11 +1,8 @@
-import java.util.List;
 import java.util.function.Supplier;
 
 /** Terms V and promises 21 to 28: a test for each sentence that names a boundary case. */
 public final class EdgeHostsTest {
     private static final int NONE = -1;
-    private static final List<Supplier<GreatSort>> WITHOUT_A_CUT = List.of(GreatSort::new, Given::rows, Given::runs,
-            Given::planned, Given::merged, EdgeHostsTest::cleared, EdgeHostsTest::runsAnew);
 
     private EdgeHostsTest() {
     }
@@ -55,22 +52,6 @@ public final class EdgeHostsTest {
         Check.end();
     }
 
-    private static int bit(boolean answer) {
-        return answer ? 1 : 0;
-    }
-
-    private static GreatSort cleared() {
-        GreatSort x = Given.atEnd();
-        x.clear();
-        return x;
-    }
-
-    private static GreatSort runsAnew() {
-        GreatSort x = Given.atWork();
-        x.runs(1);
-        return x;
-    }
-
     private static GreatSort allOnHost0(int parts, int size) {
         GreatSort x = Given.ofParts(parts, size);
         for (int host = 1; host < 8; host++) {
@@ -100,7 +81,7 @@ public final class EdgeHostsTest {
             Check.due("up", x.host(host, 1), 1);
         }
         for (int host : Refused.outside(0, 7)) {
-            Refused.atEachStage("pace(" + host + ", 1)", y -> bit(y.pace(host, 1)), 0);
+            Refused.atEachStage("pace(" + host + ", 1)", y -> Check.bit(y.pace(host, 1)), 0);
             Refused.atEachStage("fall(" + host + ")", y -> y.fall(host), NONE);
             Refused.atEachStage("rise(" + host + ")", y -> y.rise(host), NONE);
             Refused.atEachStage("host(" + host + ", 0)", y -> y.host(host, 0), NONE);
@@ -117,8 +98,8 @@ public final class EdgeHostsTest {
             Check.due("merged", x.part(0, 1), pace);
         }
         for (int pace : Refused.outside(0, 50)) {
-            Refused.atEachStage("pace(0, " + pace + ")", y -> bit(y.pace(0, pace)), 0);
-            Refused.atEachStage("pace(7, " + pace + ")", y -> bit(y.pace(7, pace)), 0);
+            Refused.atEachStage("pace(0, " + pace + ")", y -> Check.bit(y.pace(0, pace)), 0);
+            Refused.atEachStage("pace(7, " + pace + ")", y -> Check.bit(y.pace(7, pace)), 0);
         }
     }
 
@@ -498,7 +479,7 @@ public final class EdgeHostsTest {
         Check.sentence("21: false if there is none such, or it can't be");
         for (int host : Refused.outside(0, 7)) {
             for (int pace : Refused.outside(0, 50)) {
-                Refused.from(Given::atWork, "pace(" + host + ", " + pace + ")", x -> bit(x.pace(host, pace)), 0);
+                Refused.from(Given::atWork, "pace(" + host + ", " + pace + ")", x -> Check.bit(x.pace(host, pace)), 0);
             }
         }
         GreatSort x = new GreatSort();
@@ -527,7 +508,7 @@ public final class EdgeHostsTest {
 
     private static void fallTellsHowManyPartsGo() {
         Check.sentence("22: how many PARTS go elsewhere (or nowhere)");
-        for (Supplier<GreatSort> stage : WITHOUT_A_CUT) {
+        for (Supplier<GreatSort> stage : Given.WITHOUT_A_CUT) {
             Check.due("without a cut", stage.get().fall(7), 0);
         }
         GreatSort x = Given.ofParts(7, 1);
@@ -559,7 +540,7 @@ public final class EdgeHostsTest {
 
     private static void riseTellsHowManyPartsCome() {
         Check.sentence("23: how many PARTS, which lay nowhere, lie on it then");
-        for (Supplier<GreatSort> stage : WITHOUT_A_CUT) {
+        for (Supplier<GreatSort> stage : Given.WITHOUT_A_CUT) {
             GreatSort x = stage.get();
             x.fall(7);
             Check.due("without a cut", x.rise(7), 0);
@@ -633,7 +614,7 @@ public final class EdgeHostsTest {
 
     private static void hostWithoutACut() {
         Check.sentence("24: (2 to 4: 0 without a CUT)");
-        for (Supplier<GreatSort> stage : WITHOUT_A_CUT) {
+        for (Supplier<GreatSort> stage : Given.WITHOUT_A_CUT) {
             GreatSort x = stage.get();
             for (int host = 0; host < 8; host++) {
                 for (int what = 2; what <= 4; what++) {
@@ -646,7 +627,7 @@ public final class EdgeHostsTest {
 
     private static void tickWithoutACut() {
         Check.sentence("25: NONE without a CUT");
-        for (Supplier<GreatSort> stage : WITHOUT_A_CUT) {
+        for (Supplier<GreatSort> stage : Given.WITHOUT_A_CUT) {
             Refused.from(stage, "tick()", GreatSort::tick, NONE);
         }
         GreatSort x = Given.runs();
@@ -673,7 +654,7 @@ public final class EdgeHostsTest {
 
     private static void workWithoutACut() {
         Check.sentence("26: NONE without a CUT");
-        for (Supplier<GreatSort> stage : WITHOUT_A_CUT) {
+        for (Supplier<GreatSort> stage : Given.WITHOUT_A_CUT) {
             GreatSort x = stage.get();
             for (int what = -1; what <= 5; what++) {
                 Check.due("work(" + what + ")", x.work(what), NONE);
@@ -719,7 +700,7 @@ public final class EdgeHostsTest {
 
     private static void endThatIsNotThere() {
         Check.sentence("27: NONE if it is not there");
-        for (Supplier<GreatSort> stage : WITHOUT_A_CUT) {
+        for (Supplier<GreatSort> stage : Given.WITHOUT_A_CUT) {
             GreatSort x = stage.get();
             for (int i = -1; i <= 8; i++) {
                 Check.due("without a cut", x.end(i), NONE);

@@ -49,10 +49,6 @@ public final class EdgeRowsTest {
         Check.end();
     }
 
-    private static int bit(boolean answer) {
-        return answer ? 1 : 0;
-    }
-
     private static void rowsAreNumberedFrom0On() {
         Check.sentence("I: ROWS, numbered from 0 on as they came (400 at most)");
         GreatSort x = new GreatSort();
@@ -207,30 +203,33 @@ public final class EdgeRowsTest {
         Check.due("no row", x.row(0, 1), NO_ROW);
         Check.due("none against none", x.against(0, 0), -2);
         Check.due("no rank", x.rank(0), NONE);
-        Check.due("no runs", x.count(1), 0);
-        Check.due("no run", x.length(0), NONE);
-        Check.due("no run", x.at(0, 0), NONE);
-        Shows.noPlan(x);
-        Check.due("no plan", x.merge(), NONE);
-        Check.due("no run to plan", x.plan(2), NONE);
-        Check.due("no run to queue", x.queue(2), NONE);
-        Check.due("no run to cut", x.cut(1, 1), NONE);
-        Shows.noCut(x);
+        Shows.noRuns(x);
     }
 
     private static void objectsShareNothing() {
         Check.sentence("1: A new object, beside another one");
-        GreatSort x = Given.atEnd();
+        Given.atEnd();
+        Refused.from(GreatSort::new, "another one was used", x -> Given.atEnd().count(0), 8);
+        Refused.from(Given::atEnd, "another one is made", x -> new GreatSort().count(0), 0);
+        Refused.from(Given::atWork, "another one is used", x -> useOther(), 1);
+    }
+
+    private static int useOther() {
         GreatSort y = new GreatSort();
-        Check.due("no rows", y.count(0), 0);
-        Check.due("order", y.order(0, 1, 2, 3), true);
-        Check.due("pace", y.host(0, 0), 10);
-        Check.due("up", y.host(2, 1), 1);
-        Shows.noCut(y);
+        y.order(3, 2, 1, 0);
+        y.falls(0, true);
         y.give(0, 50);
-        y.runs(1);
-        Check.due("the other one's rows stay", x.count(0), 8);
-        Check.due("the other one's end stays", x.work(4), 1);
+        y.runs(7);
+        y.plan(5);
+        y.merge();
+        for (int host = 0; host < 8; host++) {
+            y.pace(host, 44);
+            y.fall(host);
+        }
+        y.rise(6);
+        y.cut(3, 2);
+        y.tick();
+        return y.count(1);
     }
 
     private static void giveTellsTheNumber() {
@@ -415,17 +414,7 @@ public final class EdgeRowsTest {
             Check.due("no rows", x.count(0), 0);
             Check.due("no row", x.row(0, 0), NO_ROW);
             Check.due("no rank", x.rank(0), NONE);
-            Check.due("no runs", x.count(1), 0);
-            for (int k = 0; k < 8; k++) {
-                Check.due("no run", x.length(k), NONE);
-                Check.due("no run", x.at(k, 0), NONE);
-            }
-            Shows.noPlan(x);
-            Check.due("no plan", x.merge(), NONE);
-            Check.due("no run to plan", x.plan(2), NONE);
-            Check.due("no run to queue", x.queue(2), NONE);
-            Check.due("no run to cut", x.cut(1, 1), NONE);
-            Shows.noCut(x);
+            Shows.noRuns(x);
         }
     }
 
@@ -459,25 +448,25 @@ public final class EdgeRowsTest {
             Check.due("order(" + a + ", " + b + ", " + c + ", " + d + ")", new GreatSort().order(a, b, c, d), each);
             told += each ? 1 : 0;
             if (!each) {
-                Refused.from(Given::rows, "not each once", x -> bit(x.order(a, b, c, d)), 0);
+                Refused.from(Given::rows, "not each once", x -> Check.bit(x.order(a, b, c, d)), 0);
             }
         }
         Check.due("as many as there are", told, 24);
         for (int wrong : Refused.outside(0, 3)) {
-            Refused.atEachStage("the first is " + wrong, x -> bit(x.order(wrong, 1, 2, 3)), 0);
-            Refused.atEachStage("the second is " + wrong, x -> bit(x.order(0, wrong, 2, 3)), 0);
-            Refused.atEachStage("the third is " + wrong, x -> bit(x.order(0, 1, wrong, 3)), 0);
-            Refused.atEachStage("the fourth is " + wrong, x -> bit(x.order(0, 1, 2, wrong)), 0);
-            Refused.atEachStage("all are " + wrong, x -> bit(x.order(wrong, wrong, wrong, wrong)), 0);
+            Refused.atEachStage("the first is " + wrong, x -> Check.bit(x.order(wrong, 1, 2, 3)), 0);
+            Refused.atEachStage("the second is " + wrong, x -> Check.bit(x.order(0, wrong, 2, 3)), 0);
+            Refused.atEachStage("the third is " + wrong, x -> Check.bit(x.order(0, 1, wrong, 3)), 0);
+            Refused.atEachStage("the fourth is " + wrong, x -> Check.bit(x.order(0, 1, 2, wrong)), 0);
+            Refused.atEachStage("all are " + wrong, x -> Check.bit(x.order(wrong, wrong, wrong, wrong)), 0);
         }
     }
 
     private static void orderRefusedWhileThereAreRuns() {
         Check.sentence("5: false if there are RUNS");
-        for (Supplier<GreatSort> stage : Given.STAGES_WITH_RUNS) {
-            Refused.from(stage, "another order", x -> bit(x.order(3, 2, 1, 0)), 0);
-            Refused.from(stage, "the order that is told", x -> bit(x.order(1, 0, 3, 2)), 0);
-            Refused.from(stage, "not each once", x -> bit(x.order(1, 1, 1, 1)), 0);
+        for (Supplier<GreatSort> stage : Given.WITH_RUNS) {
+            Refused.from(stage, "another order", x -> Check.bit(x.order(3, 2, 1, 0)), 0);
+            Refused.from(stage, "the order that is told", x -> Check.bit(x.order(1, 0, 3, 2)), 0);
+            Refused.from(stage, "not each once", x -> Check.bit(x.order(1, 1, 1, 1)), 0);
         }
         GreatSort x = Given.rows();
         Check.due("without runs", x.order(1, 0, 3, 2), true);
@@ -502,17 +491,17 @@ public final class EdgeRowsTest {
         Check.due("rises", x.falls(0, false), true);
         Check.due("rises", x.against(0, 1), -1);
         for (int sort : Refused.outside(0, 3)) {
-            Refused.atEachStage("falls(" + sort + ", true)", y -> bit(y.falls(sort, true)), 0);
-            Refused.atEachStage("falls(" + sort + ", false)", y -> bit(y.falls(sort, false)), 0);
+            Refused.atEachStage("falls(" + sort + ", true)", y -> Check.bit(y.falls(sort, true)), 0);
+            Refused.atEachStage("falls(" + sort + ", false)", y -> Check.bit(y.falls(sort, false)), 0);
         }
     }
 
     private static void fallsRefusedWhileThereAreRuns() {
         Check.sentence("6: false if there are RUNS");
-        for (Supplier<GreatSort> stage : Given.STAGES_WITH_RUNS) {
-            Refused.from(stage, "falls(0, true)", x -> bit(x.falls(0, true)), 0);
-            Refused.from(stage, "falls(1, false)", x -> bit(x.falls(1, false)), 0);
-            Refused.from(stage, "as it is told", x -> bit(x.falls(1, true)), 0);
+        for (Supplier<GreatSort> stage : Given.WITH_RUNS) {
+            Refused.from(stage, "falls(0, true)", x -> Check.bit(x.falls(0, true)), 0);
+            Refused.from(stage, "falls(1, false)", x -> Check.bit(x.falls(1, false)), 0);
+            Refused.from(stage, "as it is told", x -> Check.bit(x.falls(1, true)), 0);
         }
         Check.due("without runs", Given.rows().falls(1, false), true);
     }

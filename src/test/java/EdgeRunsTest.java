@@ -15,6 +15,7 @@ public final class EdgeRunsTest {
         ifAllStandAheadANewRunBegins();
         runsAreNumberedFrom0On();
         laterRowsAreInNoRun();
+        runsOfTheEdgesOfTheOrder();
         runsOfNoRows();
         waysAre2To8();
         theFirstMergeTakesFewer();
@@ -24,6 +25,7 @@ public final class EdgeRunsTest {
         theQueueTakesTheLongestThere();
         planAndQueueOfMostRuns();
         runsAreMadeAnewOfAllRows();
+        runsAreMadeAnewManyTimes();
         withRunsMadeAnewAllElseGoes();
         runsRefuseARoom();
         lengthOfARunThatIsNotThere();
@@ -31,6 +33,7 @@ public final class EdgeRunsTest {
         atAPlaceThatIsNotThere();
         planWithoutARun();
         planAnew();
+        planAnewOfMostRuns();
         queueWithoutARun();
         queueKeepsThePlan();
         mergesWithoutAPlan();
@@ -171,22 +174,45 @@ public final class EdgeRunsTest {
         Check.due("none to plan", y.plan(2), NONE);
     }
 
+    private static void runsOfTheEdgesOfTheOrder() {
+        Check.sentence("II: in THE ORDER, of the first KEY and the last KEY that can be");
+        int[][] orders = {{0, 1, 2, 3}, {3, 2, 1, 0}};
+        for (int[] o : orders) {
+            for (int falling = 0; falling <= 1; falling++) {
+                int least = falling == 1 ? 100000 : -100000;
+                GreatSort x = new GreatSort();
+                x.order(o[0], o[1], o[2], o[3]);
+                x.falls(o[0], falling == 1);
+                x.falls(o[3], falling == 1);
+                x.give(o[3], -least);
+                x.give(o[0], least);
+                x.give(o[3], -least);
+                x.give(o[3], least);
+                x.give(o[0], -least);
+                Check.due("room 1", x.runs(1), 4);
+                Shows.run(x, 0, 0);
+                Shows.run(x, 1, 1, 2);
+                Shows.run(x, 2, 3);
+                Shows.run(x, 3, 4);
+                Check.due("room 2", x.runs(2), 2);
+                Shows.run(x, 0, 1, 0, 2);
+                Shows.run(x, 1, 4, 3);
+                Check.due("room 40", x.runs(40), 1);
+                Shows.run(x, 0, 1, 4, 3, 0, 2);
+            }
+        }
+        GreatSort y = Given.rising(399);
+        y.give(3, 100000);
+        Check.due("the last row that can be", y.runs(1), 1);
+        Check.due("it stands last", y.at(0, 399), 399);
+    }
+
     private static void runsOfNoRows() {
         Check.sentence("10: how many, of no ROWS");
         for (int room = 1; room <= 40; room++) {
             Check.due("runs(" + room + ")", new GreatSort().runs(room), 0);
         }
-        GreatSort x = new GreatSort();
-        x.runs(1);
-        Check.due("count(1)", x.count(1), 0);
-        Check.due("length(0)", x.length(0), NONE);
-        Check.due("at(0, 0)", x.at(0, 0), NONE);
-        Check.due("plan", x.plan(2), NONE);
-        Check.due("queue", x.queue(2), NONE);
-        Shows.noPlan(x);
-        Check.due("merge", x.merge(), NONE);
-        Check.due("cut", x.cut(1, 1), NONE);
-        Shows.noCut(x);
+        Shows.noRuns(Given.runsOfNoRows());
     }
 
     private static void waysAre2To8() {
@@ -345,9 +371,29 @@ public final class EdgeRunsTest {
         Check.due("none", x.length(0), NONE);
     }
 
+    private static void runsAreMadeAnewManyTimes() {
+        Check.sentence("10: RUNS are made anew of all ROWS, many times");
+        GreatSort x = Given.falling(400);
+        for (int i = 0; i < 20; i++) {
+            Check.due("400 runs", x.runs(1), 400);
+            x.plan(2);
+            x.merge();
+            Check.due("10 runs", x.runs(40), 10);
+        }
+        Shows.run(x, 9, 399, 398, 397, 396, 395, 394, 393, 392, 391, 390, 389, 388, 387, 386, 385, 384, 383, 382, 381,
+                380, 379, 378, 377, 376, 375, 374, 373, 372, 371, 370, 369, 368, 367, 366, 365, 364, 363, 362, 361, 360);
+        for (int i = 0; i < 20; i++) {
+            Check.due("clear", x.clear(), i == 0 ? 400 : 200);
+            x.sow(1, 100, 1, -1, 1);
+            x.sow(1, 100, 1, -1, 1);
+            Check.due("200 runs", x.runs(1), 200);
+            Check.due("the last one", x.at(199, 0), 199);
+        }
+    }
+
     private static void withRunsMadeAnewAllElseGoes() {
         Check.sentence("10: (PLAN, what was MERGED and CUT go)");
-        for (Supplier<GreatSort> stage : Given.STAGES_WITH_RUNS) {
+        for (Supplier<GreatSort> stage : Given.WITH_RUNS) {
             GreatSort x = stage.get();
             Check.due("with the same room", x.runs(1), 4);
             Shows.noPlan(x);
@@ -428,25 +474,11 @@ public final class EdgeRunsTest {
         Check.sentence("13: NONE if there is no RUN (none made, or of no ROWS)");
         for (int k = 2; k <= 8; k++) {
             int ways = k;
-            for (Supplier<GreatSort> stage : Given.STAGES_WITHOUT_RUNS) {
-                Refused.from(stage, "plan(" + k + "), none made", x -> x.plan(ways), NONE);
+            for (Supplier<GreatSort> stage : Given.WITHOUT_RUNS) {
+                Refused.from(stage, "plan(" + k + ")", x -> x.plan(ways), NONE);
             }
-            Refused.from(EdgeRunsTest::ofNoRows, "plan(" + k + "), of no rows", x -> x.plan(ways), NONE);
-            Refused.from(EdgeRunsTest::cleared, "plan(" + k + "), cleared", x -> x.plan(ways), NONE);
         }
         Check.due("of one row", Given.ofRuns(1).plan(2), 0);
-    }
-
-    private static GreatSort ofNoRows() {
-        GreatSort x = new GreatSort();
-        x.runs(1);
-        return x;
-    }
-
-    private static GreatSort cleared() {
-        GreatSort x = Given.atEnd();
-        x.clear();
-        return x;
     }
 
     private static void planAnew() {
@@ -466,15 +498,32 @@ public final class EdgeRunsTest {
         Shows.takes(x, 0, 0, 1, 2);
     }
 
+    private static void planAnewOfMostRuns() {
+        Check.sentence("13: THE PLAN by k ways is told, anew and of the most RUNS");
+        GreatSort x = Given.falling(400);
+        x.runs(1);
+        int[] moved = new int[9];
+        for (int k = 2; k <= 8; k++) {
+            GreatSort y = Given.falling(400);
+            y.runs(1);
+            moved[k] = y.plan(k);
+        }
+        for (int i = 0; i < 5; i++) {
+            for (int k = 8; k >= 2; k--) {
+                Check.due("plan(" + k + ")", x.plan(k), moved[k]);
+                Check.due("it takes the first run", x.takes(0, 0), 0);
+                Check.due("merges", x.merges(), (399 + k - 2) / (k - 1));
+            }
+        }
+    }
+
     private static void queueWithoutARun() {
         Check.sentence("14: NONE likewise");
         for (int k = 2; k <= 8; k++) {
             int ways = k;
-            for (Supplier<GreatSort> stage : Given.STAGES_WITHOUT_RUNS) {
-                Refused.from(stage, "queue(" + k + "), none made", x -> x.queue(ways), NONE);
+            for (Supplier<GreatSort> stage : Given.WITHOUT_RUNS) {
+                Refused.from(stage, "queue(" + k + ")", x -> x.queue(ways), NONE);
             }
-            Refused.from(EdgeRunsTest::ofNoRows, "queue(" + k + "), of no rows", x -> x.queue(ways), NONE);
-            Refused.from(EdgeRunsTest::cleared, "queue(" + k + "), cleared", x -> x.queue(ways), NONE);
         }
         Check.due("of one row", Given.ofRuns(1).queue(2), 0);
     }
@@ -482,7 +531,7 @@ public final class EdgeRunsTest {
     private static void queueKeepsThePlan() {
         Check.sentence("14: (THE PLAN stays)");
         // Four RUNS of eight ROWS: by 3 ways the first two, then all that are left.
-        for (Supplier<GreatSort> stage : Given.STAGES_WITH_RUNS) {
+        for (Supplier<GreatSort> stage : Given.WITH_RUNS) {
             GreatSort x = stage.get();
             int moved = x.length(0) + x.length(1);
             Refused.from(stage, "queue(3)", y -> y.queue(3), moved + 8);
@@ -505,7 +554,7 @@ public final class EdgeRunsTest {
         Check.due("planned", Given.planned().merges(), 3);
         Check.due("merged", Given.merged().merges(), 3);
         Check.due("with a cut", Given.atEnd().merges(), 3);
-        Check.due("cleared", cleared().merges(), 0);
+        Check.due("cleared", Given.cleared().merges(), 0);
         GreatSort y = Given.ofRuns(5);
         y.plan(2);
         Check.due("of one run", y.merges(), 0);
@@ -537,11 +586,11 @@ public final class EdgeRunsTest {
 
     private static void mergeWithNoPlanSinceRunsWereMade() {
         Check.sentence("17: NONE if none is told since RUNS were made");
-        for (Supplier<GreatSort> stage : Given.STAGES.subList(0, 3)) {
-            Refused.from(stage, "none told", GreatSort::merge, NONE);
+        for (Supplier<GreatSort> stage : Given.WITHOUT_RUNS) {
+            Refused.from(stage, "without runs", GreatSort::merge, NONE);
         }
-        Refused.from(EdgeRunsTest::ofNoRows, "of no rows", GreatSort::merge, NONE);
-        Refused.from(EdgeRunsTest::cleared, "cleared", GreatSort::merge, NONE);
+        Refused.from(Given::runs, "none told", GreatSort::merge, NONE);
+        Refused.from(Given::runsAnew, "told before runs were made", GreatSort::merge, NONE);
         GreatSort x = Given.runs();
         x.queue(2);
         Check.due("only a queue", x.merge(), NONE);

@@ -6,8 +6,11 @@ final class Given {
     /** Each stage, from a new object to THE END; from the second one on nothing that can be told is as at first. */
     static final List<Supplier<GreatSort>> STAGES = List.of(GreatSort::new, Given::rows, Given::runs, Given::planned,
             Given::merged, Given::atWork, Given::atEnd);
-    static final List<Supplier<GreatSort>> STAGES_WITHOUT_RUNS = STAGES.subList(0, 2);
-    static final List<Supplier<GreatSort>> STAGES_WITH_RUNS = STAGES.subList(2, STAGES.size());
+    static final List<Supplier<GreatSort>> WITH_RUNS = STAGES.subList(2, STAGES.size());
+    static final List<Supplier<GreatSort>> WITHOUT_RUNS = List.of(GreatSort::new, Given::rows, Given::runsOfNoRows,
+            Given::cleared);
+    static final List<Supplier<GreatSort>> WITHOUT_A_CUT = List.of(GreatSort::new, Given::rows, Given::runsOfNoRows,
+            Given::cleared, Given::runs, Given::planned, Given::merged, Given::runsAnew);
 
     private Given() {
     }
@@ -93,6 +96,12 @@ final class Given {
         return x;
     }
 
+    static GreatSort runsOfNoRows() {
+        GreatSort x = new GreatSort();
+        x.runs(1);
+        return x;
+    }
+
     static GreatSort planned() {
         GreatSort x = runs();
         x.plan(2);
@@ -118,6 +127,18 @@ final class Given {
         GreatSort x = atWork();
         x.tick();
         Check.due("the end", x.work(4), 1);
+        return x;
+    }
+
+    static GreatSort cleared() {
+        GreatSort x = atEnd();
+        x.clear();
+        return x;
+    }
+
+    static GreatSort runsAnew() {
+        GreatSort x = atWork();
+        x.runs(1);
         return x;
     }
 }

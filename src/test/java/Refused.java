@@ -107,7 +107,7 @@ final class Refused {
         tell("rise(5)", x.rise(5));
         tell("queue(3)", x.queue(3));
         tell("give(3, 1)", x.give(3, 1));
-        tell("falls(0, true)", x.falls(0, true) ? 1 : 0);
+        tell("falls(0, true)", Check.bit(x.falls(0, true)));
         tell("runs(3)", x.runs(3));
         tell("plan(3)", x.plan(3));
         tell("cut(3, 2)", x.cut(3, 2));

@@ -61,6 +61,20 @@ final class Shows {
         Check.due("takes(0, 0)", x.takes(0, 0), NONE);
     }
 
+    static void noRuns(GreatSort x) {
+        Check.due("count(1)", x.count(1), 0);
+        for (int k = 0; k < 8; k++) {
+            Check.due("length(" + k + ")", x.length(k), NONE);
+            Check.due("at(" + k + ", 0)", x.at(k, 0), NONE);
+        }
+        noPlan(x);
+        Check.due("merge()", x.merge(), NONE);
+        Check.due("plan(2)", x.plan(2), NONE);
+        Check.due("queue(2)", x.queue(2), NONE);
+        Check.due("cut(1, 1)", x.cut(1, 1), NONE);
+        noCut(x);
+    }
+
     static void noCut(GreatSort x) {
         Check.due("bound()", x.bound(), NONE);
         Check.due("part(0, 0)", x.part(0, 0), -2);
